@@ -405,7 +405,7 @@ public final class LateLines {
 
         /** What is to be laid in when the BOX comes counts too, the last of it most. */
         private int valueAtLast(int item) {
-            if (!isItem(item)) {
+            if (item < 0 || item >= ITEMS) {
                 return 0;
             }
             if (spot == NEAR || spot == SHELVED) {
@@ -439,7 +439,7 @@ public final class LateLines {
         /** CHANGED ITEMS alone are written; the others are FAR as they are. */
         private void goFar() {
             for (int j = 0; j < ITEMS; j++) {
-                if (changedBit(j) == 1) {
+                if ((changed >> j & 1) == 1) {
                     far[j] = held[j];
                 }
             }
@@ -449,7 +449,7 @@ public final class LateLines {
         }
 
         private void layIn(int item, int value) {
-            if (isItem(item)) {
+            if (item >= 0 && item < ITEMS) {
                 held[item] = value;
                 changed |= 1 << item;
             }
@@ -511,7 +511,7 @@ public final class LateLines {
                 waited[load] = wait;
             }
             answered++;
-            greatest = Math.max(greatest, wait);
+            greatest = wait > greatest ? wait : greatest;
             sum += wait;
             squares += (long) wait * wait;
         }
@@ -710,7 +710,7 @@ public final class LateLines {
 
         private void setDue(Box box, int wait) {
             box.due = counts[TICKS] + wait;
-            soonest = Math.min(soonest, box.due);
+            soonest = box.due < soonest ? box.due : soonest;
         }
 
         /** Whether the LOAD or STORE could begin. */
