@@ -1,6 +1,7 @@
 /** Counts and prints the calls whose answer is not the one that is due. */
 final class Check {
     private final String name;
+    private String sentence = "";
     private int calls;
     private int wrong;
 
@@ -8,11 +9,16 @@ final class Check {
         this.name = name;
     }
 
+    /** The sentence of DOC.md that the answers from here on are about. */
+    void of(String sentence) {
+        this.sentence = " [" + sentence + "]";
+    }
+
     void due(String call, long got, long want) {
         calls++;
         if (got != want) {
             wrong++;
-            System.out.println(name + ": " + call + " answered " + got + ", due is " + want);
+            System.out.println(name + sentence + ": " + call + " answered " + got + ", due is " + want);
         }
     }
 

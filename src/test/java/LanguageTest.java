@@ -94,6 +94,20 @@ public final class LanguageTest {
             }
         }
         methodLengths(text);
+        madeInConstructors(code);
+    }
+
+    /** All calls of a run live in one room: no call makes an object, constructors alone do. */
+    private static void madeInConstructors(String code) {
+        Pattern head = Pattern.compile("^\\s*(?:public|private) (?:(?!class|static final)[\\w\\[\\]<>]+ )*(\\w+)\\(.*\\{$");
+        String method = "";
+        for (String line : code.split("\n")) {
+            Matcher m = head.matcher(line);
+            method = m.matches() ? m.group(1) : method;
+            boolean constructor = !method.isEmpty() && Character.isUpperCase(method.charAt(0));
+            check.due("new in " + method, line.matches(".*\\bnew\\b.*") && !constructor ? 1 : 0, 0);
+        }
+        check.due("methods were seen, the last of them " + method, method.isEmpty() ? 1 : 0, 0);
     }
 
     private static void methodLengths(String text) {
